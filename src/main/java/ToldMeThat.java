@@ -246,11 +246,11 @@ public final class ToldMeThat {
         if (!isTable(table)) {
             return NOT_AS_TOLD;
         }
-        if (now.stories == 0) {
-            return FEWER;
-        }
         weigh(worths, table, now.day);
         int best = bestBeside(0);
+        if (best < 0) {
+            return FEWER;
+        }
         return what == 0 ? best : worths[best];
     }
 

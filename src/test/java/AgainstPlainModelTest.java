@@ -3,6 +3,8 @@ import java.util.Random;
 /** Plays random runs of calls on the class and on PlainModel, and compares each answer. */
 public final class AgainstPlainModelTest {
     private static final int RUNS = 400;
+    // An object is used for 512 calls at most; one text is 111 of them at most.
+    private static final int CALLS = 400, LONGEST_TEXT = 110;
     private static final String[] SCRAPS = {"fun ", "sour ", "days ", "face ", " ", ";", "|", "&",
         "!", "(", ")", "h", "k", "s", "g", "t", "w", "<", "=", ">", "0", "1", "5", "12", "99", "x"};
 
@@ -10,6 +12,7 @@ public final class AgainstPlainModelTest {
     private final ToldMeThat x = new ToldMeThat();
     private final PlainModel y = new PlainModel();
     private final StringBuilder calls = new StringBuilder();
+    private int played = 0;
 
     private AgainstPlainModelTest(int seed) {
         random = new Random(seed);
@@ -18,12 +21,12 @@ public final class AgainstPlainModelTest {
     public static void main(String[] args) {
         int runs = args.length > 0 ? Integer.parseInt(args[0]) : RUNS;
         for (int seed = 0; seed < runs; seed++) {
-            new AgainstPlainModelTest(seed).play(seed);
+            new AgainstPlainModelTest(seed).play();
         }
         Check.end("AgainstPlainModelTest");
     }
 
-    private void play(int seed) {
+    private void play() {
         for (int i = 0, n = random.nextInt(7); i < n; i++) {
             same("hearer", x.hearer(i, i), y.hearer(i, i), i, i);
         }
@@ -32,12 +35,13 @@ public final class AgainstPlainModelTest {
             int minutes = 1 + random.nextInt(9);
             same("story", x.story(good, minutes), y.story(good, minutes), good, minutes);
         }
-        for (int calls = 0; calls < 250; calls++) {
+        for (int i = 0; i < CALLS && played < CALLS; i++) {
             oneCall();
         }
     }
 
     private void same(String call, long got, long want, long... args) {
+        played++;
         calls.append(call).append(java.util.Arrays.toString(args)).append(' ');
         if (got != want) {
             Check.due(calls.toString(), got, want);
@@ -197,7 +201,7 @@ public final class AgainstPlainModelTest {
             text.replace(place, Math.min(text.length(), place + random.nextInt(3)),
                 SCRAPS[random.nextInt(SCRAPS.length)]);
         }
-        for (int i = 0; i < text.length(); i++) {
+        for (int i = 0; i < text.length() && i < LONGEST_TEXT; i++) {
             int sign = random.nextInt(1000) == 0 ? any(0, 127) : text.charAt(i);
             same("feed", x.feed(sign), y.feed(sign), sign);
         }

@@ -76,6 +76,9 @@ public final class EveningsSuppersSeatsTest {
         x.tell(1, 1);
         x.tell(2, 1);
         Check.due("0 is not above 0", x.coffee(3, 0), 3);
+        x.good(2, 6);
+        Check.due("1 is", x.coffee(3, 0), 4);
+        x.good(2, 5);
         Check.due("how much", x.coffee(3, 1), 20 + 25 + 12);
         Check.due("asking changes nothing", x.of(0, 10), 0);
         Check.due("without stories", new ToldMeThat().coffee(0, 1), 0);
@@ -93,6 +96,9 @@ public final class EveningsSuppersSeatsTest {
         Check.due("keep(1, 1, 61, 0)", x.keep(1, 1, 61, 0), -10002);
         Check.due("one story", x.keep(1, 1, 60, 0), -10005);
         Check.due("one story", x.keep(1, 1, 1, 1), -10005);
+        x.story(4, 4);
+        Check.due("two stories", x.keep(1, 1, 60, 0), 1);
+        Check.due("two stories", x.keep(1, 1, 60, 1), 9);
     }
 
     private static void keep() {

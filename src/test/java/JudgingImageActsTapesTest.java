@@ -62,6 +62,11 @@ public final class JudgingImageActsTapesTest {
         Check.due("far below 0", x.judge(0, Integer.MIN_VALUE), 100);
         x.tape(0, INTS, 3);
         Check.due("0 told", x.judge(0, 0), 0);
+        ToldMeThat alone = room(1, 1);
+        alone.tape(5, INTS, 1);
+        alone.item(5, 0, 3);
+        alone.had(0, 0, 3);
+        Check.due("TIMES of the only one", alone.judge(5, 0), -5);
         ToldMeThat nobody = room(0, 2);
         nobody.tape(5, INTS, 2);
         Check.due("TIMES 0 of nobody", nobody.judge(5, 0), -5);
@@ -130,8 +135,9 @@ public final class JudgingImageActsTapesTest {
             x.had(0, 1, 2);
             x.row(1, 0, 9);
             x.row(1, 1, 8);
-            x.see(1, 3);
-            x.see(1, 3);
+            x.see(-1, 0);
+            x.see(1, 2);
+            x.see(1, 2);
             x.book(-1);
             x.book(0);
             x.book(0);
@@ -145,6 +151,7 @@ public final class JudgingImageActsTapesTest {
             Check.due("the last time", x.again(0, 2), 12);
             Check.due("FACES", x.count(3), 1);
             Check.due("whose", x.guess(0), 1);
+            Check.due("not whose", x.guess(1), 0);
             Check.due("the BOOK", x.count(4), 1);
             Check.due("which HOUSE holds", x.told(1), 30);
             Check.due("its MOOD", x.of(0, 30), 1002);
@@ -311,6 +318,9 @@ public final class JudgingImageActsTapesTest {
         Check.due("refused: as it was", x.read(0, 59), 5);
         Check.due("anew", x.tape(0, 3, 60), 1);
         Check.due("all 0", x.read(0, 59), 0);
+        x.item(0, 0, 8);
+        x.tape(0, 2, 2);
+        Check.due("the first one too", x.read(0, 0), 0);
         Check.due("tape(0, 0, 0)", x.tape(0, 0, 0), 1);
         Check.due("a row of none", x.item(0, 0, 1), PLACE);
         Check.due("nothing, by -7", x.tape(0, -1, -7), 1);

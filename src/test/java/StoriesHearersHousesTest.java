@@ -308,6 +308,10 @@ public final class StoriesHearersHousesTest {
         Check.house(x, "days 0");
         Check.due("days 0", x.told(1), 0);
         Check.due("no face in it", x.told(2), 5);
+        Check.due("a fault", Check.house(x, "days 7;face 8;"), -10 - 14);
+        Check.house(x, "fun 1 h=0");
+        Check.due("no days of a fault", x.told(1), 20);
+        Check.due("no face of a fault", x.told(2), 5);
         x.pass(7);
         Check.due("told(0)", x.told(0), 7);
         Check.due("told(3)", x.told(3), ToldMeThat.NONE);

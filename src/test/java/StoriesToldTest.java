@@ -188,6 +188,9 @@ public final class StoriesToldTest {
         Check.due("fresh to the others", x.fresh(0), 0b010100);
         x.pass(10);
         Check.due("the FORGETFUL forget", x.fresh(0), 0b111110);
+        x.tell(0, 4);
+        x.pass(10);
+        Check.due("each by its own day", x.fresh(0), 0b111011);
         Check.due("fresh(1)", x.fresh(1), ToldMeThat.NONE);
         Check.due("fresh(-1)", x.fresh(-1), ToldMeThat.NONE);
     }
@@ -218,6 +221,8 @@ public final class StoriesToldTest {
         Check.due("by day 2 of 9", x.again(0, 4), 1);
         Check.house(x, "days 50");
         Check.due("CHILDISH, 100 less a day", x.again(0, 2), 99);
+        x.tell(0, 2);
+        Check.due("100 days are too many", x.again(0, 2), -5);
         Check.house(x, "days 51");
         Check.due("not by then", x.again(0, 2), -5);
         Check.due("nothing changes", x.told(0), 1);
