@@ -1251,29 +1251,17 @@ public final class ToldMeThat {
 
         private boolean learnPart(int depth) {
             int sign = signAt(at);
-            if (sign != '!' && sign != '(') {
-                return learnTest();
+            if (sign == '!' || sign == '(') {
+                if (depth >= DEEPEST) {
+                    return false;
+                }
+                at++;
+                return sign == '!' ? learnPart(depth + 1) && add(NOT, 0)
+                        : learnEither(depth + 1) && goBy(')');
             }
-            if (depth >= DEEPEST) {
-                return false;
-            }
-            at++;
-            if (sign == '!') {
-                return learnPart(depth + 1) && add(NOT, 0);
-            }
-            return learnEither(depth + 1) && goBy(')');
-        }
-
-        private boolean learnTest() {
             int letter = goByOneOf(LETTERS);
-            if (letter < 0) {
-                return false;
-            }
-            int relation = goByOneOf(SIGNS);
-            if (relation < 0) {
-                return false;
-            }
-            int n = goByNumber();
+            int relation = letter < 0 ? -1 : goByOneOf(SIGNS);
+            int n = relation < 0 ? -1 : goByNumber();
             return n >= 0 && add(RELATIONS * letter + relation, n);
         }
 
@@ -1301,7 +1289,8 @@ public final class ToldMeThat {
 
         private int goByOneOf(String signs) {
             for (int i = 0; i < signs.length(); i++) {
-                if (goBy(signs.charAt(i))) {
+                if (signAt(at) == signs.charAt(i)) {
+                    at++;
                     return i;
                 }
             }
