@@ -25,6 +25,8 @@ public final class LanguageRulesTest {
         + " int undo(); int act(int,int,int); int trace(int); int taken(int,int); int count(int);"
         + " int tape(int,int,int); int item(int,int,long); long read(int,int);"
         + " int shift(int,int,int,int,int)";
+    private static final Set<Class<?>> CONSTANTS = Set.of(int.class, long.class, boolean.class,
+        char.class, String.class, int[].class, long[].class, char[].class, byte[].class);
     private static final String[] FORBIDDEN = {"throw", "try", "catch", "synchronized", "assert",
         "import", "package", "native", "volatile", "transient", "->", "::"};
 
@@ -95,6 +97,8 @@ public final class LanguageRulesTest {
                 boolean isStatic = Modifier.isStatic(f.getModifiers());
                 Check.due("final: " + f,
                     isStatic && !Modifier.isFinal(f.getModifiers()) ? 1 : 0, 0);
+                Check.due("a constant's type: " + f,
+                    isStatic && !CONSTANTS.contains(f.getType()) ? 1 : 0, 0);
                 fields += isStatic ? 0 : 1;
             }
             Check.due("twenty fields at most: " + c, fields <= 20 ? 1 : 0, 1);

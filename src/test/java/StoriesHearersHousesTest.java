@@ -1,7 +1,9 @@
 /** Promises 1 to 12: a new object, stories, hearers, houses, days. */
 public final class StoriesHearersHousesTest {
     public static void main(String[] args) {
+        constants();
         aNewObject();
+        objectsAreApart();
         story();
         hearer();
         of();
@@ -20,6 +22,14 @@ public final class StoriesHearersHousesTest {
         Check.end("StoriesHearersHousesTest");
     }
 
+    private static void constants() {
+        Check.due("NONE", ToldMeThat.NONE, -1);
+        Check.due("BAD", ToldMeThat.BAD, -2);
+        Check.due("STATE", ToldMeThat.STATE, -3);
+        Check.due("FULL", ToldMeThat.FULL, -4);
+        Check.due("NO", ToldMeThat.NO, Long.MIN_VALUE);
+    }
+
     private static void aNewObject() {
         ToldMeThat x = new ToldMeThat();
         for (int what = 0; what <= 6; what++) {
@@ -31,7 +41,17 @@ public final class StoriesHearersHousesTest {
         Check.due("new: undo()", x.undo(), ToldMeThat.STATE);
         Check.due("new: trace(0)", x.trace(0), ToldMeThat.NONE);
         Check.due("new: read(0, 0)", x.read(0, 0), ToldMeThat.NO);
-        Check.due("NO", ToldMeThat.NO, Long.MIN_VALUE);
+    }
+
+    // A new object has nothing of those made and used ahead of it, nor do they have of it.
+    private static void objectsAreApart() {
+        ToldMeThat full = Room.full();
+        ToldMeThat empty = Room.empty();
+        ToldMeThat some = Room.some();
+        Room.lastDay();
+        Check.due("full", Room.tell(full).equals(Room.tell(Room.full())) ? 1 : 0, 1);
+        Check.due("empty", Room.tell(empty).equals(Room.tell(Room.empty())) ? 1 : 0, 1);
+        Check.due("some", Room.tell(some).equals(Room.tell(Room.some())) ? 1 : 0, 1);
     }
 
     private static void story() {
